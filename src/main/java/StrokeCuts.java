@@ -784,7 +784,7 @@ public final class StrokeCuts {
                     enqueue(k);
                 }
             }
-            for (int at = 0; at < queued; at++) {
+            for (int at = 0; at < queued && at < MOST_DOTS; at++) {
                 int number = queue[at];
                 for (int way = 0; way < WAYS; way++) {
                     int other = neighbour[number * WAYS + way];
@@ -863,7 +863,7 @@ public final class StrokeCuts {
                     enqueue(k);
                 }
             }
-            for (int at = 0; at < queued; at++) {
+            for (int at = 0; at < queued && at < MOST_DOTS; at++) {
                 for (int way = 0; way < WAYS; way++) {
                     int there = queue[at] * WAYS + way;
                     int other = neighbour[there];

@@ -183,6 +183,15 @@ public final class CutOutEdgeTests {
         due(c.side(1), 0);
     }
 
+    static void p12_linksOfWeightOneHoldToo() {
+        StrokeCuts c = unpulled("f..", "...", "...");
+        c.sets(0, 1);
+        due(c.side(0), 511);
+        c = unpulled("g..", "...", "...");
+        c.sets(0, 1);
+        due(c.side(1), 0);
+    }
+
     static void p12_leastAndGreatestBetweenTwoMarks() {
         StrokeCuts c = unpulled("f..", "...", "..g");
         due(c.side(0), 1);

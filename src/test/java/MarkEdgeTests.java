@@ -141,6 +141,14 @@ public final class MarkEdgeTests {
         lineDue("f..../.f.../..ff./....f", 4, 3, 0, 0);
     }
 
+    static void p07_farnessIsBetweenTheEndsNotFromTheBorder() {
+        // two apart, wherever they lie: three dots, none more on the way
+        lineDue("..../.f../..ff", 1, 1, 3, 2);
+        lineDue("..../.f../..ff", 3, 2, 1, 1);
+        lineDue(".../.../.f./..f/..f", 1, 2, 2, 4);
+        lineDue(".../.../.f./..f/..f", 2, 4, 1, 2);
+    }
+
     static void p07_onlyThoseThatWereOtherwiseCount() {
         StrokeCuts c = new StrokeCuts();
         due(c.stroke(1, 0, 0, 3, 0), 4);

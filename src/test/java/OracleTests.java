@@ -2,7 +2,8 @@ import java.util.Random;
 
 /** Long runs of drawn calls on the class and on the Oracle side by side; every answer must be the same. */
 public final class OracleTests {
-    private static final int RUNS = 120, CALLS = 512;
+    // an object answers 512 calls; a text that is typed takes some sixty of them at most
+    private static final int RUNS = 200, LAST_BEGIN = 440;
     private static int wrong = 0;
 
     private static StrokeCuts real;
@@ -11,6 +12,7 @@ public final class OracleTests {
     private static int run, call, w, h;
 
     private static void same(String what, long got, long want) {
+        call++;
         if (got != want) {
             wrong++;
             if (wrong < 30) {
@@ -132,6 +134,7 @@ public final class OracleTests {
     }
 
     private static long drawnSet() {
+        call++;
         long all = (1L << w * h) - 1;
         switch (random.nextInt(8)) {
             case 0: return random.nextLong();
@@ -230,13 +233,14 @@ public final class OracleTests {
             due = new Oracle();
             w = 4;
             h = 4;
+            call = 0;
             if (run % 2 == 0) {
                 pictureCall(0);
                 w = due.told(3);
                 h = due.told(4);
                 pictureCall(2);
             }
-            for (call = 0; call < CALLS; call++) {
+            while (call < LAST_BEGIN) {
                 oneCall();
             }
             same("digest at the end", real.digest(), due.digest());

@@ -812,6 +812,7 @@ public final class PromiseTests {
         doesDue(c, "l9;".repeat(33) + " ", 33);
         doesDue(c, "n00;".repeat(25), 25);
         doesDue(c, " ".repeat(100), -110);
+        c = begin(24);
         doesDue(c, " ".repeat(96) + "f33;", 1);
         doesDue(c, "n00;".repeat(24) + "n003", -110);
         due(c.type(';'), FULL);

@@ -93,6 +93,12 @@ public final class ShapeEdgeTests {
         shapeDue(Edges.figure("fff", "..f", "fff", "f..", "fff"), PIECES, 1);
     }
 
+    static void p18_piecesHangTogetherByWaysUpAndToTheLeft() {
+        shapeDue(Edges.figure("f.f", "f.f", "fff"), PIECES, 1);
+        shapeDue(Edges.figure("..f", ".ff", "ff."), PIECES, 1);
+        shapeDue(Edges.figure(".fff", ".f.f", "ff.f", "...f", "ffff"), PIECES, 1);
+    }
+
     static void p18_piecesDoNotHangTogetherByCorners() {
         shapeDue(Edges.figure("f..", ".f.", "..f"), PIECES, 3);
         shapeDue(Edges.figure("..f", ".f.", "f.."), PIECES, 3);
@@ -123,6 +129,11 @@ public final class ShapeEdgeTests {
 
     static void p18_aHoleOfOneDot() {
         shapeDue(Edges.figure("fff", "f.f", "fff"), HOLES, 1);
+    }
+
+    static void p18_aHoleThatGoesUpAndDown() {
+        shapeDue(Edges.figure("fffff", "f.f.f", "f...f", "fffff"), HOLES, 1);
+        shapeDue(Edges.figure("fffff", "f...f", "f.f.f", "fffff"), HOLES, 1);
     }
 
     static void p18_aHoleWhoseCornersAreOpen() {
