@@ -482,6 +482,55 @@ public final class TextEdgeTests {
         }
     }
 
+    /** Of all 128 bytes behind this text those that are told, and blanks, can stand; any other one is a fault at its place. */
+    private static void nextDue(String text, String canStand) {
+        for (char next = 0; next < 128; next++) {
+            StrokeCuts c = texted(4, 3, text + next);
+            int fault = -10 - text.length();
+            boolean isFault = c.does() == fault;
+            due(isFault ? next : -1, canStand.indexOf(next) < 0 && next != ' ' ? next : -1);
+        }
+    }
+
+    static void p24_everyByteWhereAnOrderBegins() {
+        nextDue("", "fgnsl");
+        nextDue("  ", "fgnsl");
+        nextDue("f00;", "fgnsl");
+        nextDue("l1; ", "fgnsl");
+    }
+
+    static void p24_everyByteWhereAnXIsDue() {
+        for (String text : new String[] {"f", "g", "n", "s", "f00;s "}) {
+            nextDue(text, "0123");
+        }
+    }
+
+    static void p24_everyByteWhereAYIsDue() {
+        for (String text : new String[] {"f0", "g1", "n2", "s3", "f003", "g000", "n00 0"}) {
+            nextDue(text, "012");
+        }
+    }
+
+    static void p24_everyByteWhereALineMayGoOn() {
+        for (String text : new String[] {"f00", "g00", "n32"}) {
+            nextDue(text, "0123;");
+        }
+    }
+
+    static void p24_everyByteWhereAShadeIsDue() {
+        nextDue("s00", "0123456789");
+    }
+
+    static void p24_everyByteWhereRoundsAreDue() {
+        nextDue("l", "123456789");
+    }
+
+    static void p24_everyByteWhereTheEndIsDue() {
+        for (String text : new String[] {"f0011", "g3200", "n0000", "s009", "l9"}) {
+            nextDue(text, ";");
+        }
+    }
+
     static void p24_blanksCountForThePlace() {
         faultDue("  f 0 x;", 6);
         faultDue(" f00 ;  q", 8);
