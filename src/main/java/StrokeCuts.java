@@ -701,7 +701,7 @@ public final class StrokeCuts {
         private static final int WAYS = 2 * LINKS;
         // a mark must outweigh any cost there can be, which stays below 20,000
         private static final int MARK_PULL = 1000000;
-        // each round makes the shortest way longer, so there are no more rounds than dots
+        // each round makes the shortest way from every dot that still sends longer, so there are hardly more rounds than dots
         private static final int MOST_FILLS = 1000;
 
         private int dots;
@@ -762,7 +762,7 @@ public final class StrokeCuts {
                 int before = flow;
                 for (int k = 0; k < dots; k++) {
                     if (fromFigure[k] > 0 && distance[k] > 0) {
-                        int sent = send(k, fromFigure[k], 1);
+                        int sent = send(this, k, fromFigure[k], 1);
                         fromFigure[k] -= sent;
                         flow += sent;
                     }
@@ -803,28 +803,28 @@ public final class StrokeCuts {
             }
         }
 
-        private int send(int number, int amount, int depth) {
+        private static int send(Network net, int number, int amount, int depth) {
             if (depth > MOST_DOTS) {
                 return 0;
             }
             int sent = 0;
-            if (distance[number] == 1) {
-                sent = Math.min(amount, toGround[number]);
-                toGround[number] -= sent;
+            if (net.distance[number] == 1) {
+                sent = Math.min(amount, net.toGround[number]);
+                net.toGround[number] -= sent;
             }
             for (int way = 0; way < WAYS && sent < amount; way++) {
                 int there = number * WAYS + way;
-                int other = neighbour[there];
-                if (other != NONE && room[there] > 0 && isNext(number, other)) {
-                    int more = send(other, Math.min(amount - sent, room[there]), depth + 1);
-                    room[there] -= more;
-                    room[other * WAYS + reverse(way)] += more;
+                int other = net.neighbour[there];
+                if (other != NONE && net.room[there] > 0 && net.isNext(number, other)) {
+                    int more = send(net, other, Math.min(amount - sent, net.room[there]), depth + 1);
+                    net.room[there] -= more;
+                    net.room[other * WAYS + reverse(way)] += more;
                     sent += more;
                 }
             }
             if (sent < amount) {
                 // nothing more goes through here in this round, so no way need try it again
-                distance[number] = 0;
+                net.distance[number] = 0;
             }
             return sent;
         }

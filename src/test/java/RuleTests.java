@@ -7,7 +7,9 @@ import java.lang.reflect.Modifier;
 import java.nio.file.Files;
 import java.nio.file.Path;
 import java.util.List;
+import java.util.Map;
 import java.util.Set;
+import java.util.TreeMap;
 import java.util.TreeSet;
 import java.util.regex.Matcher;
 import java.util.regex.Pattern;
@@ -113,6 +115,64 @@ public final class RuleTests {
         }
     }
 
+    /** Each method's name, what stands ahead of it, and what stands in it; names are told once in the whole text. */
+    private static Map<String, String[]> methods(String text) {
+        String[] lines = text.replaceAll("(?s)/\\*.*?\\*/", " ").replaceAll("//[^\n]*", " ").split("\n");
+        Pattern head = Pattern.compile("^( {4}| {8})((?:[\\w\\[\\]]+ )*)(\\w+)(\\([^()]*\\)) \\{$");
+        Map<String, String[]> found = new TreeMap<>();
+        for (int i = 0; i < lines.length; i++) {
+            Matcher m = head.matcher(lines[i]);
+            if (m.matches()) {
+                StringBuilder body = new StringBuilder();
+                for (int at = i + 1; at < lines.length && !lines[at].equals(m.group(1) + "}"); at++) {
+                    body.append(lines[at]).append('\n');
+                }
+                hold(found.put(m.group(3), new String[] {m.group(2), m.group(4), body.toString()}) == null, m.group(3) + " is told once");
+            }
+        }
+        return found;
+    }
+
+    private static Set<String> callsIn(String body) {
+        Set<String> names = new TreeSet<>();
+        Matcher m = Pattern.compile("(?<!new )\\b(\\w+)\\(").matcher(body);
+        while (m.find()) {
+            names.add(m.group(1));
+        }
+        return names;
+    }
+
+    // rule 8: what calls itself is private, static and carries its depth; nothing else leads back to itself
+    private static void recursion(Map<String, String[]> methods) {
+        for (Map.Entry<String, String[]> method : methods.entrySet()) {
+            if (callsIn(method.getValue()[2]).contains(method.getKey())) {
+                hold(method.getValue()[0].startsWith("private static "), method.getKey() + " calls itself and is private and static");
+                hold(method.getValue()[1].contains("int depth"), method.getKey() + " calls itself and carries its depth");
+            }
+        }
+    }
+
+    // rule 11: a call of the library counts as one deep
+    private static int deep(Map<String, String[]> methods, String name, int open) {
+        int deepest = 0;
+        if (!methods.containsKey(name) || open > 20) {
+            return open > 20 ? 20 : 1;
+        }
+        for (String called : callsIn(methods.get(name)[2])) {
+            boolean isCall = !called.equals(name) && !Set.of("if", "for", "while", "switch").contains(called);
+            deepest = isCall ? Math.max(deepest, deep(methods, called, open + 1)) : deepest;
+        }
+        return 1 + deepest;
+    }
+
+    private static void callDepth(Map<String, String[]> methods) {
+        hold(methods.size() > 60, "the methods are found");
+        for (String name : methods.keySet()) {
+            int deep = deep(methods, name, 1);
+            hold(deep <= 8, name + " goes at most eight deep, but " + deep);
+        }
+    }
+
     // a run of 512 calls of the dearest kind must not fill the room that all calls share
     private static void room() {
         com.sun.management.ThreadMXBean threads = (com.sun.management.ThreadMXBean) ManagementFactory.getThreadMXBean();
@@ -166,6 +226,9 @@ public final class RuleTests {
         constants();
         words(text);
         methodLengths(text);
+        Map<String, String[]> methods = methods(text);
+        recursion(methods);
+        callDepth(methods);
         room();
         System.out.println(wrong == 0 ? "all rules hold" : wrong + " rules do not hold");
         if (wrong != 0) {
