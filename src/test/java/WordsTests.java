@@ -4,11 +4,11 @@ import java.util.regex.Pattern;
 
 /**
  * Whole ranges gone through by the words of the document alone: best cut-outs found by the cost of every set of dots there is,
- * every line of the greatest picture, every short text by one expression that all texts without a fault must match.
+ * every line of the greatest picture, short texts by one expression that all texts without a fault must match.
  */
 public final class WordsTests {
     private static final int PICTURES = 400, MOST_DOTS_GONE_THROUGH = 16;
-    private static final String SIGNS = "fsl;0129 ";
+    private static final String SIGNS = "fsl;0123 ";
     private static final int MOST_SIGNS = 7;
     private static int wrong = 0;
 
@@ -215,7 +215,7 @@ public final class WordsTests {
         }
     }
 
-    // ---- all short texts, in a picture of 2 times 3 dots
+    // ---- short texts, in a picture of 2 times 3 dots
 
     private static final Pattern WITHOUT_FAULT = Pattern.compile(
         ("(_([fgn]_[01]_[012]_([01]_[012]_)?|s_[01]_[012]_[0-9]_|l_[1-9]_);_)+").replace("_", " *"));
