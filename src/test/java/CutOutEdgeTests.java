@@ -119,6 +119,22 @@ public final class CutOutEdgeTests {
         due(c.side(0), 511 - 16);
     }
 
+    static void p11_theLongestCorridor() {
+        // a corridor of 24 dots, the longest that nowhere lies beside itself; walls hold by 1, so that it carries the most there is
+        StrokeCuts c = Edges.shaded("000000", "999990", "000900", "090009", "009990", "900000");
+        c.sets(0, 50);
+        c.sets(1, 9);
+        c.sets(2, 0);
+        c.mark(0, 0, 1);
+        c.mark(5, 4, 2);
+        // each cut parts the corridor (50) and a wall from it (1): only beside the figure's mark does one suffice
+        due(c.cost(), 51);
+        due(c.side(0), 1);
+        due(c.side(1), 1);
+        due(c.tight(0, 0, 0), 2);
+        due(c.tight(5, 4, 1), 0);
+    }
+
     static void p11_changesNothing() {
         Edges.onlyAsks(c -> c.cost());
     }
